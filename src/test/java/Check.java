@@ -1,0 +1,60 @@
+/** Compares answers with those that are due, and ends a test with exit code 1 if one is otherwise. */
+final class Check {
+    private final String test;
+    private int right;
+    private int wrong;
+
+    Check(String test) {
+        this.test = test;
+    }
+
+    void due(String call, long got, long want) {
+        that(call + " answered " + got + ", due is " + want, got == want);
+    }
+
+    void that(String otherwise, boolean holds) {
+        if (holds) {
+            right++;
+        } else {
+            wrong++;
+            System.out.println(test + ": " + otherwise);
+        }
+    }
+
+    int wrong() {
+        return wrong;
+    }
+
+    void end() {
+        System.out.println(test + ": " + right + " as due, " + wrong + " not");
+        if (wrong > 0 || right == 0) {
+            System.exit(1);
+        }
+    }
+
+    /** Feeds a text to THE TAPE, byte by byte. */
+    static void feed(ArrowTurner x, String text) {
+        for (int i = 0; i < text.length(); i++) {
+            x.feed(text.charAt(i), 1);
+        }
+    }
+
+    /** A new object with the NET that a text tells. */
+    static ArrowTurner net(String text) {
+        ArrowTurner x = new ArrowTurner();
+        feed(x, text);
+        if (x.read() < 0) {
+            throw new IllegalStateException("no text of a net: " + text);
+        }
+        return x;
+    }
+
+    /** THE NET as it is SPELLED. */
+    static String spelled(ArrowTurner x) {
+        StringBuilder text = new StringBuilder();
+        for (int i = 0; x.spell(i) >= 0; i++) {
+            text.append((char) x.spell(i));
+        }
+        return text.toString();
+    }
+}

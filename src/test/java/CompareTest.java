@@ -1,0 +1,224 @@
+import java.lang.reflect.Method;
+import java.util.ArrayList;
+import java.util.List;
+import java.util.Map;
+import java.util.TreeMap;
+
+/**
+ * Long runs of calls, some with wrong numbers, on ArrowTurner and on Plain: all answers must be the
+ * same. The numbers come from a row that is always the same, so that every run can be run again.
+ */
+public final class CompareTest {
+    private static final int RUNS = 160, CALLS = 512;
+
+    /**
+     * What each parameter is: n a NODE, e an EDGE, a an ARROWING, w a WORD, h a HOLDER, f a FIRER; a
+     * digit or a letter behind it: 0 up to it (z: 49 and the like of runs(), i: of any size).
+     */
+    private static final Map<String, String> CALLED = new TreeMap<>();
+
+    static {
+        String[] all = {"nodes 7", "edge nn", "cut e", "of e3", "arrows", "set a", "ends a1", "free a",
+            "fire n", "drown n", "back", "thin", "log 81", "flow ae", "alike aa", "many 1", "ofClass 81",
+            "place a", "rooted n", "tutte 99", "distance aa", "step aa", "far a1", "ways at", "trip a",
+            "byWord w", "words a1", "turn w", "conjugate ww", "off ww", "firer 56", "runs fqz", "feed i4",
+            "wipe", "read", "spell s", "hold h1b", "drop h", "taken h2", "row h6", "put h5d", "get h5",
+            "judge ha", "image", "undo", "count 5"};
+        for (String line : all) {
+            String[] parts = line.split(" ");
+            CALLED.put(parts[0], parts.length > 1 ? parts[1] : "");
+        }
+    }
+
+    private long seed;
+    private ArrowTurner real;
+    private Plain plain;
+
+    public static void main(String[] args) throws Exception {
+        Check check = new Check("CompareTest");
+        for (Method m : ArrowTurner.class.getDeclaredMethods()) {
+            if (java.lang.reflect.Modifier.isPublic(m.getModifiers())) {
+                String kinds = CALLED.get(m.getName());
+                check.that("the test calls " + m.getName(),
+                        kinds != null && kinds.length() == m.getParameterCount());
+            }
+        }
+        CompareTest test = new CompareTest();
+        for (int run = 0; run < RUNS && check.wrong() < 5; run++) {
+            test.compare(check, run);
+        }
+        check.end();
+    }
+
+    private int below(int bound) {
+        seed = seed * 6364136223846793005L + 1442695040888963407L;
+        return (int) ((seed >>> 33) % bound);
+    }
+
+    private void compare(Check check, int run) throws Exception {
+        seed = 1000003L * run + 17;
+        below(2);
+        real = new ArrowTurner();
+        plain = new Plain();
+        List<String> told = new ArrayList<>();
+        List<String> names = new ArrayList<>(CALLED.keySet());
+        boolean calm = run % 2 == 0;
+        while (told.size() < CALLS) {
+            int before = told.size();
+            if (told.isEmpty() || below(calm ? 60 : 20) == 0) {
+                feedText(told);
+            }
+            String name = names.get(below(names.size()));
+            if (calm && List.of("nodes", "cut", "undo").contains(name) && below(4) > 0) {
+                continue;
+            }
+            if (below(9) == 0) {
+                name = List.of("fire", "drown", "edge", "alike", "distance", "runs", "off", "judge").get(below(8));
+            }
+            call(told, name, arguments(CALLED.get(name)));
+            for (String row : told.subList(before, told.size())) {
+                check.that("run " + run + ", call " + told.indexOf(row) + ": " + row, !row.contains("due is"));
+            }
+            if (check.wrong() > 0) {
+                told.forEach(System.out::println);
+                return;
+            }
+        }
+    }
+
+    /** Calls both, and tells the call with what was answered. */
+    private void call(List<String> told, String name, int... numbers) throws Exception {
+        Object[] given = new Object[numbers.length];
+        Class<?>[] kinds = new Class<?>[numbers.length];
+        StringBuilder row = new StringBuilder(name).append('(');
+        for (int i = 0; i < numbers.length; i++) {
+            given[i] = numbers[i];
+            kinds[i] = int.class;
+            row.append(i > 0 ? ", " : "").append(numbers[i]);
+        }
+        Object got = ArrowTurner.class.getDeclaredMethod(name, kinds).invoke(real, given);
+        Object want = Plain.class.getDeclaredMethod(name, kinds).invoke(plain, given);
+        row.append(") answered ").append(got);
+        told.add(got.equals(want) ? row.toString() : row.append(", due is ").append(want).toString());
+    }
+
+    private int[] arguments(String kinds) {
+        int[] numbers = new int[kinds.length()];
+        for (int i = 0; i < numbers.length; i++) {
+            numbers[i] = argument(kinds.charAt(i));
+            if (i > 0 && kinds.charAt(i) == 'w' && below(2) == 0) {
+                numbers[i] = swapped(numbers[i - 1]);
+            }
+        }
+        if (kinds.equals("h1b") && numbers[1] == 1 && below(8) > 0) {
+            numbers[2] = argument('w');
+        }
+        if (kinds.equals("hd")) {
+            numbers[1] = argument('d');
+        }
+        return numbers;
+    }
+
+    private int argument(char kind) {
+        int odd = below(40);
+        if (odd == 0) {
+            int[] wild = {Integer.MIN_VALUE, Integer.MAX_VALUE, -1, -2, 1 << below(31), 1023, 1024, 99};
+            return wild[below(wild.length)];
+        }
+        int edges = real.count(1);
+        switch (kind) {
+            case 'n':
+                return below(real.count(0) + (odd == 1 ? 1 : 0));
+            case 'e':
+                return odd == 1 || edges == 0 ? edges : below(edges);
+            case 'a':
+            case 'b':
+                return odd == 1 ? 1 << edges : below(1 << edges);
+            case 'w':
+                return word(odd == 1);
+            case 'h':
+                return below(odd == 1 ? 7 : 3);
+            case 'f':
+                return below(real.count(3) + (odd == 1 ? 1 : 0) + 1);
+            case 'z':
+                return new int[] {below(3), 10 + below(12), 60 + below(7), below(80)}[below(4)];
+            case 'q':
+                return below(odd == 1 ? 45 : 14);
+            case 't':
+                return below(14);
+            case 's':
+                return below(3 * edges + 2);
+            case 'd':
+                return below(9) - 4;
+            case 'i':
+                return below(1 << 30) << 1;
+            default:
+                return below(kind - '0' + (odd == 1 ? 2 : 1));
+        }
+    }
+
+    private int word(boolean wrong) {
+        List<Integer> nodes = new ArrayList<>();
+        for (int v = 0; v < real.count(0); v++) {
+            nodes.add(v + 1);
+        }
+        int word = 0;
+        while (!nodes.isEmpty()) {
+            word = word * 10 + nodes.remove(below(nodes.size()));
+        }
+        return wrong ? word + new int[] {1, 10, -word / 10 * 9, word * 9, -2 * word}[below(5)] : word;
+    }
+
+    /** A WORD with two neighbours changed about, so that ARROWS are often the same. */
+    private int swapped(int word) {
+        char[] digits = String.valueOf(word).toCharArray();
+        for (int again = 0; again < 2 && digits.length > 1 && digits.length < 8; again++) {
+            int i = below(digits.length - 1);
+            char first = digits[i];
+            digits[i] = digits[i + 1];
+            digits[i + 1] = first;
+        }
+        return digits[0] == '-' || digits.length > 7 || word < 0 ? word : Integer.parseInt(new String(digits));
+    }
+
+    /** Feeds the TEXT of a NET, at times a wrong one, and reads it. */
+    private void feedText(List<String> told) throws Exception {
+        int n = 2 + below(6);
+        StringBuilder text = new StringBuilder().append(n);
+        int tries = below(20);
+        for (int k = 0; k < tries; k++) {
+            String from = String.valueOf(below(n));
+            String to = String.valueOf(below(n));
+            boolean there = text.indexOf(";" + from + to) >= 0 || text.indexOf(";" + to + from) >= 0;
+            if (!from.equals(to) && !there && text.length() < 31) {
+                text.append(';').append(from).append(to);
+            }
+        }
+        if (below(3) == 0) {
+            spoil(text);
+        }
+        for (int i = 0; i < text.length(); i += 2) {
+            boolean two = i + 1 < text.length();
+            int bytes = two ? text.charAt(i) << 8 | text.charAt(i + 1) : text.charAt(i);
+            call(told, "feed", bytes, two ? 2 : 1);
+        }
+        call(told, "read");
+    }
+
+    private void spoil(StringBuilder text) {
+        int at = below(text.length());
+        switch (below(4)) {
+            case 0:
+                text.setCharAt(at, "0127;89:\u00fe\u0000".charAt(below(10)));
+                break;
+            case 1:
+                text.setLength(at);
+                break;
+            case 2:
+                text.insert(at, (char) ('0' + below(8)));
+                break;
+            default:
+                text.append(";0123;".substring(0, 1 + below(6)));
+        }
+    }
+}
