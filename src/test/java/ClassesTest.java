@@ -41,6 +41,14 @@ public final class ClassesTest {
         due("15 flow(0, 5)", y.flow(0, 5), 1 - 1 - 1);
         due("15 flow(32, 5), a ROUND", y.flow(32, 5), -3);
 
+        // Parts of TREE that are joined late, in the middle of both.
+        ArrowTurner late = Check.net("7;01;12;34;45;14;05;23;60");
+        due("15 joined late, chords", late.count(5), 2);
+        due("15 joined late", late.flow(0, 5), 1 - 1 - 1 - 1);
+        due("15 joined late", late.flow(0, 6), 1 + 1 - 1 + 1);
+        due("15 joined late", late.flow(1 << 4 | 1 << 5, 5), -1 - 1 + 1 - 1);
+        due("15 a chord no more", Check.net("7;01;12;34;45;05;60").flow(0, 4), NO);
+
         ArrowTurner z = Check.net("7;01;12;23;34;45;56;06");
         due("15 a RING of 7", z.flow(63, 6), 7);
         due("15 a RING of 7, against", z.flow(64, 6), -7);
@@ -207,6 +215,14 @@ public final class ClassesTest {
         due("17 behind undo", x.many(0), 6);
         due("17 behind undo", x.many(1), 2);
         due("21 behind undo", x.tutte(2, 0), 6);
+        due("18 behind undo", x.ofClass(0, 0), 3);
+        due("19 behind undo", x.place(1), 1);
+        x.cut(0);
+        due("19 behind cut, first", x.place(1), 0);
+        x.undo();
+        due("20 behind undo, first", x.rooted(2), 2);
+        x.cut(1);
+        due("18 behind cut, first", x.ofClass(0, 0), 4);
         x.nodes(2);
         due("17 behind nodes", x.many(0), 1);
         due("21 behind nodes", x.tutte(2, 0), 1);

@@ -30,6 +30,12 @@ public final class CompareTest {
         }
     }
 
+    private static final List<String> NAMES = new ArrayList<>(CALLED.keySet());
+    private static final List<String> OFTEN = List.of("fire", "drown", "edge", "alike", "distance", "runs", "off");
+    private static final List<String> DEEDS = List.of("fire", "drown", "fire", "drown", "log");
+    /** By kinds of runs: a TEXT is fed once in so many calls. */
+    private static final int[] TEXTS = {60, 30, 15, 300};
+
     private long seed;
     private ArrowTurner real;
     private Plain plain;
@@ -55,26 +61,35 @@ public final class CompareTest {
         return (int) ((seed >>> 33) % bound);
     }
 
+    /** Which call comes next: of all (kind 0), less often those by which much begins anew, or deeds. */
+    private String nameFor(int kind) {
+        String name = NAMES.get(below(NAMES.size()));
+        boolean anew = List.of("nodes", "edge", "cut", "set", "read", "undo").contains(name);
+        if (kind == 3) {
+            boolean deed = anew || below(4) > 0;
+            return !deed ? name : below(40) == 0 ? "thin" : below(20) == 0 ? "back" : DEEDS.get(below(DEEDS.size()));
+        }
+        if (kind > 0 && anew && below(3) > 0 || below(9) == 0) {
+            return OFTEN.get(below(OFTEN.size()));
+        }
+        return name;
+    }
+
     private void compare(Check check, int run) throws Exception {
         seed = 1000003L * run + 17;
         below(2);
         real = new ArrowTurner();
         plain = new Plain();
         List<String> told = new ArrayList<>();
-        List<String> names = new ArrayList<>(CALLED.keySet());
-        boolean calm = run % 2 == 0;
         while (told.size() < CALLS) {
             int before = told.size();
-            if (told.isEmpty() || below(calm ? 60 : 20) == 0) {
+            if (told.isEmpty() || below(TEXTS[run % 4]) == 0) {
                 feedText(told);
             }
-            String name = names.get(below(names.size()));
-            if (calm && List.of("nodes", "cut", "undo").contains(name) && below(4) > 0) {
-                continue;
+            if (told.size() % 50 == 49) {
+                judgeFlows(told);
             }
-            if (below(9) == 0) {
-                name = List.of("fire", "drown", "edge", "alike", "distance", "runs", "off", "judge").get(below(8));
-            }
+            String name = nameFor(run % 4);
             call(told, name, arguments(CALLED.get(name)));
             for (String row : told.subList(before, told.size())) {
                 check.that("run " + run + ", call " + told.indexOf(row) + ": " + row, !row.contains("due is"));
@@ -203,6 +218,21 @@ public final class CompareTest {
             call(told, "feed", bytes, two ? 2 : 1);
         }
         call(told, "read");
+    }
+
+    /** A ROW that tells the FLOWS of an ARROWING, or nearly so, is JUDGED. */
+    private void judgeFlows(List<String> told) throws Exception {
+        int arrowing = below(1 << real.count(1));
+        int cells = real.count(5);
+        call(told, "row", 2, cells + below(3) % 2);
+        for (int e = 0, k = 0; e < real.count(1); e++) {
+            if (real.of(e, 2) == 1) {
+                call(told, "put", 2, k, (int) real.flow(arrowing, e) + (below(9) == 0 ? 2 : 0));
+                k++;
+            }
+        }
+        call(told, "judge", 2, arrowing);
+        call(told, "judge", 2, below(1 << real.count(1)));
     }
 
     private void spoil(StringBuilder text) {

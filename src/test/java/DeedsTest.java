@@ -155,5 +155,16 @@ public final class DeedsTest {
             due("12 back", x.back(), k % 2);
         }
         due("12 back", x.back(), STATE);
+
+        ArrowTurner y = Check.net("2;01");
+        for (int k = 0; k < 27; k++) {
+            due("11 by turns", k % 2 == 0 ? y.fire(0) : y.drown(0), 1 - k % 2);
+        }
+        due("11 log is full", y.count(2), 24);
+        for (int k = 0; k < 24; k++) {
+            due("14 the node of " + k, y.log(k, 0), 0);
+            due("14 whether " + k + " was drowned", y.log(k, 1), k % 2 == 0 ? 1 : 0);
+        }
+        due("13 thin, full", y.thin(), 24);
     }
 }

@@ -57,6 +57,7 @@ public final class FiringsTest {
         due("23 step(-1, 0)", STAR.step(-1, 0), BAD);
         due("23 a ROUND", TAIL.step(12, 4), 3);
         due("23 a ROUND, none", TAIL.step(4, 12), NOT);
+        due("23 a ROUND, itself", TAIL.step(12, 12), NOT);
         due("23 two parts", Check.net("4;01;23").step(0, 2), 2);
         due("23 two parts", Check.net("4;01;23").step(0, 3), 0);
         due("23 two parts", Check.net("4;32;01").step(1, 2), 0);

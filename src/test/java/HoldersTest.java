@@ -29,6 +29,8 @@ public final class HoldersTest {
         due("38 hold(-1, 0, 0)", x.hold(-1, 0, 0), BAD);
         due("38 hold(0, 2, 0)", x.hold(0, 2, 0), BAD);
         due("38 hold(0, -1, 0)", x.hold(0, -1, 0), BAD);
+        due("38 hold(0, 2, 321)", x.hold(0, 2, 321), BAD);
+        due("38 hold(0, -1, 321)", x.hold(0, -1, 321), BAD);
         due("38 hold(0, 0, 4)", x.hold(0, 0, 4), BAD);
         due("38 hold(0, 0, -1)", x.hold(0, 0, -1), BAD);
         due("38 hold(0, 0, 123), a word", x.hold(0, 0, 123), BAD);
@@ -91,6 +93,10 @@ public final class HoldersTest {
         due("41 get(0, 19)", x.get(0, 19), 5);
         due("41 row(0, 20) again", x.row(0, 20), 20);
         due("41 all 0", x.get(0, 19), 0);
+        x.put(0, 0, 6);
+        x.row(0, 1);
+        due("41 all 0", x.get(0, 0), 0);
+        x.row(0, 20);
         due("41 row(0, 0)", x.row(0, 0), 0);
         due("41 no place in it", x.put(0, 0, 1), NO_PLACE);
         due("41 a row, though", x.drop(0), 3);
