@@ -1,11 +1,17 @@
 /** Compares answers with those that are due, and ends a test with exit code 1 if one is otherwise. */
 final class Check {
     private final String test;
+    private String sentence = "";
     private int right;
     private int wrong;
 
     Check(String test) {
         this.test = test;
+    }
+
+    /** Tells which sentence of the document the answers behind this are due by. */
+    void says(String words) {
+        sentence = "[" + words + "] ";
     }
 
     void due(String call, long got, long want) {
@@ -17,8 +23,12 @@ final class Check {
             right++;
         } else {
             wrong++;
-            System.out.println(test + ": " + otherwise);
+            System.out.println(test + ": " + sentence + otherwise);
         }
+    }
+
+    void same(String what, String got, String want) {
+        that(what + " is " + got + ", due is " + want, got.equals(want));
     }
 
     int wrong() {
@@ -52,8 +62,10 @@ final class Check {
     /** THE NET as it is SPELLED. */
     static String spelled(ArrowTurner x) {
         StringBuilder text = new StringBuilder();
-        for (int i = 0; x.spell(i) >= 0; i++) {
-            text.append((char) x.spell(i));
+        int b = x.spell(0);
+        for (int i = 1; b >= 0; i++) {
+            text.append((char) b);
+            b = x.spell(i);
         }
         return text.toString();
     }

@@ -1,8 +1,9 @@
 import java.lang.reflect.Field;
-import java.lang.reflect.Member;
 import java.lang.reflect.Method;
 import java.lang.reflect.Modifier;
+import java.util.ArrayList;
 import java.util.Arrays;
+import java.util.List;
 import java.util.TreeSet;
 import java.util.stream.Collectors;
 
@@ -47,7 +48,7 @@ public final class FaceTest {
         }
         TreeSet<String> got = new TreeSet<>();
         for (Method m : face.getDeclaredMethods()) {
-            if (!Modifier.isPrivate(m.getModifiers())) {
+            if (!Modifier.isPrivate(m.getModifiers()) && !m.isSynthetic()) {
                 CHECK.that(m + " is public", m.getModifiers() == Modifier.PUBLIC);
                 String kinds = Arrays.stream(m.getParameterTypes()).map(Class::getName)
                         .collect(Collectors.joining(", "));
@@ -73,7 +74,7 @@ public final class FaceTest {
         }
     }
 
-    /** No private method, and none of a class inside, bears the name of a public one. */
+    /** No private method bears the name of a public one. */
     private static void names(Class<?> face) {
         TreeSet<String> open = new TreeSet<>();
         for (Method m : face.getDeclaredMethods()) {
@@ -81,13 +82,16 @@ public final class FaceTest {
                 open.add(m.getName());
             }
         }
-        for (Method m : face.getDeclaredMethods()) {
-            CHECK.that(m + " bears a public name", Modifier.isPublic(m.getModifiers()) || !open.contains(m.getName()));
+        ArrayList<Class<?>> all = new ArrayList<>(List.of(face.getDeclaredClasses()));
+        for (Class<?> inside : all) {
+            CHECK.that(inside + " is static, and not open", Modifier.isStatic(inside.getModifiers())
+                    && !Modifier.isPublic(inside.getModifiers()) && !Modifier.isProtected(inside.getModifiers()));
         }
-        for (Class<?> inside : face.getDeclaredClasses()) {
-            CHECK.that(inside + " is not static", Modifier.isStatic(inside.getModifiers()));
-            for (Member m : inside.getDeclaredMethods()) {
-                CHECK.that(m + " bears a public name", !open.contains(m.getName()));
+        all.add(face);
+        for (Class<?> one : all) {
+            for (Method m : one.getDeclaredMethods()) {
+                boolean own = Modifier.isPrivate(m.getModifiers()) && !m.isSynthetic();
+                CHECK.that(m + " bears a public name", !own || !open.contains(m.getName()));
             }
         }
     }
