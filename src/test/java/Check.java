@@ -1,12 +1,28 @@
 /** Compares answers with those that are due, and ends a test with exit code 1 if one is otherwise. */
 final class Check {
+    private static final int MOST_MILLISECONDS = 300_000;
+
     private final String test;
-    private String sentence = "";
+    private volatile String sentence = "";
     private int right;
     private int wrong;
 
     Check(String test) {
         this.test = test;
+        Thread watch = new Thread(this::watch);
+        watch.setDaemon(true);
+        watch.start();
+    }
+
+    /** A call that does not end must fail the test, not hold it up for ever. */
+    private void watch() {
+        try {
+            Thread.sleep(MOST_MILLISECONDS);
+        } catch (InterruptedException gone) {
+            return;
+        }
+        System.out.println(test + ": " + sentence + "has not ended in time");
+        Runtime.getRuntime().halt(1);
     }
 
     /** Tells which sentence of the document the answers behind this are due by. */

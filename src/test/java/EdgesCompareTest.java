@@ -13,7 +13,7 @@ public final class EdgesCompareTest {
     private static final Check CHECK = new Check("EdgesCompareTest");
     private static final int MIN = Integer.MIN_VALUE, MAX = Integer.MAX_VALUE, CALLS = 512;
     private static final int[] NODES = {MIN, -1, 0, 1, 3, 4, 6, 7, 32, MAX};
-    private static final int[] EDGES = {MIN, -1, 0, 2, 3, 4, 6, 9, 10, 32, MAX};
+    private static final int[] EDGES = {MIN, -1, 0, 2, 3, 4, 5, 6, 9, 10, 32, MAX};
     private static final int[] ARROWINGS = {MIN, -1, 0, 1, 3, 4, 12, 15, 16, 129, 624, 1023, 1024, MAX};
     private static final int[] WORDS = {MIN, -1, 0, 1, 2, 12, 123, 1234, 1243, 4321, 4213, 12340, 1234567, 1243567,
         7654321, 1234568, 12345678, MAX};

@@ -19,6 +19,8 @@ public final class FirerTermsTest {
         timesOneBehindTheOther();
         endsWithoutSource();
         theArrowsFirst();
+        asTheArrowsAre();
+        howOften();
         inThought();
         first();
         last();
@@ -54,6 +56,17 @@ public final class FirerTermsTest {
         due("count(3)", x.count(3), 4);
         due("runs(4, 0, 1)", x.runs(4, 0, 1), BAD);
         due("runs(-1, 0, 1)", x.runs(-1, 0, 1), BAD);
+        int[] from = {0, 2, 2, 4};
+        ArrowTurner up = Check.net(PARTS);
+        ArrowTurner down = Check.net(PARTS);
+        for (int f = 0; f < 4; f++) {
+            up.firer(FROM, f);
+            down.firer(FROM, 3 - f);
+        }
+        for (int f = 0; f < 4; f++) {
+            due("each has its own v, " + f, up.runs(f, 1, 10), from[f]);
+            due("each has its own v, " + f, down.runs(f, 1, 10), from[3 - f]);
+        }
         int[] first = {0, 4, 2, 4};
         for (int f = 0; f < 4; f++) {
             due("the first that " + f + " fires", x.runs(f, 1, 10), first[f]);
@@ -144,6 +157,47 @@ public final class FirerTermsTest {
         }
         due("all were FIRED", x.arrows(), 0);
         due("runs(0, 0, 2)", x.runs(0, 0, 2), NOT);
+    }
+
+    private static void asTheArrowsAre() {
+        CHECK.says("behind how many of them the ARROWING was first (1 at least) as THE ARROWS are; NOT: behind none");
+        for (int n = 2; n <= 7; n++) {
+            ArrowTurner x = Check.net(PATH.substring(0, 3 * n - 2));
+            x.firer(LAST, 0);
+            x.firer(RARE, 0);
+            for (int k = 0; k <= 40; k++) {
+                due("runs(0, " + k + ", 2) of " + n, x.runs(0, k, 2), k < n ? NOT : n);
+            }
+            due("runs(1, 40, 2)", x.runs(1, 40, 2), n);
+            due("runs(1, 0, 2), a RUN anew", x.runs(1, 0, 2), NOT);
+            due("runs(1, 1, 2), a RUN anew", x.runs(1, 1, 2), NOT);
+        }
+        ArrowTurner never = Check.net("3;01;12");
+        never.firer(FIRST, 0);
+        due("runs(0, 40, 2), never again", never.runs(0, 40, 2), NOT);
+        never.fire(0);
+        due("runs(0, 2, 2)", never.runs(0, 2, 2), NOT);
+        due("runs(0, 3, 2)", never.runs(0, 3, 2), 3);
+        due("runs(0, 40, 2), the first time", never.runs(0, 40, 2), 3);
+        ArrowTurner round = Check.net("4;01;12;20;32");
+        round.firer(FIRST, 0);
+        due("a ROUND, runs(0, 40, 2)", round.runs(0, 40, 2), NOT);
+    }
+
+    private static void howOften() {
+        CHECK.says("60 and a NODE: how often that was FIRED");
+        for (int n = 2; n <= 7; n++) {
+            ArrowTurner x = Check.net(n + PATH.substring(1, 3 * n - 2));
+            x.firer(LAST, 0);
+            for (int v = 0; v < n; v++) {
+                due("none, 60 and " + v, x.runs(0, 0, 60 + v), 0);
+                due("runs(0, 40, 60 and " + v + ") of " + n, x.runs(0, 40, 60 + v), (40 + n - 1 - v) / n);
+                due("runs(0, " + v + ", 60 and " + v + ")", x.runs(0, v, 60 + v), 0);
+                due("runs(0, " + (v + 1) + ", 60 and " + v + ")", x.runs(0, v + 1, 60 + v), 1);
+            }
+            due("60 and " + n, x.runs(0, 40, 60 + n), BAD);
+            due("59", x.runs(0, 40, 59), BAD);
+        }
     }
 
     private static void inThought() {

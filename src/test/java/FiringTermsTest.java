@@ -444,6 +444,12 @@ public final class FiringTermsTest {
             due("none", nodes(n).off(TURNED_ABOUT[n - 1], TURNED_ABOUT[n - 1]), 0);
             due("the first gone last", nodes(n).off(ORDERED[n - 1], nodes(n).turn(ORDERED[n - 1])), n - 1);
         }
+        ArrowTurner fewer = nodes(7);
+        due("all pairs of 7", fewer.off(1234567, 7654321), 21);
+        for (int n = 6; n >= 1; n--) {
+            fewer.nodes(n);
+            due("all pairs of " + n + ", of 7 before", fewer.off(ORDERED[n - 1], TURNED_ABOUT[n - 1]), n * (n - 1) / 2);
+        }
         due("the last two", nodes(7).off(1234567, 1234576), 1);
         due("the first two", nodes(7).off(2134567, 1234567), 1);
         due("two pairs", nodes(7).off(2134567, 1234576), 2);

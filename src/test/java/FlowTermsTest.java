@@ -26,6 +26,7 @@ public final class FlowTermsTest {
         classesWithoutEdges();
         sizeAndHead();
         orderOfClasses();
+        everyArrowingOfTen();
         noClassOfARound();
         rootedNoOtherSource();
         rootedIfFree();
@@ -33,6 +34,7 @@ public final class FlowTermsTest {
         tutteNotJoinedOtherwise();
         tutteBothEndsOneNode();
         tutteOfAll();
+        behindEveryChange();
         CHECK.end();
     }
 
@@ -113,8 +115,18 @@ public final class FlowTermsTest {
                 due("flow(" + a + ", " + chord + ")", x.flow(a, chord), over + back - (chord - back));
             }
         }
-        ArrowTurner turned = Check.net("3;01;12;20");
-        due("the CHORD leads from HIGH to LOW", turned.flow(turned.arrows(), 2), -3);
+        ArrowTurner low = Check.net("3;01;12;20");
+        due("the CHORD leads from HIGH to LOW", low.flow(low.arrows(), 2), -3);
+        // Parts of TREE that are joined late, in the middle of both.
+        ArrowTurner late = Check.net("7;01;12;34;45;14;05;23;60");
+        due("late, over 01, 14, 45", late.flow(0, 5), 1 - 1 - 1 - 1);
+        due("late, over 12, 14, 34", late.flow(0, 6), 1 + 1 - 1 + 1);
+        due("late, two turned", late.flow(1 << 4 | 1 << 5, 5), -1 - 1 + 1 - 1);
+        ArrowTurner up = Check.net("3;12;02;01");
+        int[] turned = {1, 1 - 2, 1 + 2, 1 - 2 + 2, 1 - 2, 1 - 2 - 2, 1 + 2 - 2, 1 - 2 + 2 - 2};
+        for (int a = 0; a < 8; a++) {
+            due("over 01, 12, 20: flow(" + a + ", 2)", up.flow(a, 2), turned[a]);
+        }
         ArrowTurner high = Check.net("7;65;54;46");
         due("the greatest NODES", high.flow(high.arrows(), 2), 3);
         due("the greatest NODES", high.flow(0, 2), 1 - 1 - 1);
@@ -256,6 +268,26 @@ public final class FlowTermsTest {
         }
     }
 
+    private static void everyArrowingOfTen() {
+        CHECK.says("A CLASS: all FREE ARROWINGS that are ALIKE to one of them");
+        int[] sizes = new int[48];
+        ArrowTurner x = Check.net(TEN);
+        for (int a = 0; a < 1024; a++) {
+            x = a % 128 == 0 ? Check.net(TEN) : x;
+            int place = x.place(a);
+            due("FREE or not, " + a, place == NOT ? 0 : 1, x.free(a));
+            if (place >= 0 && place < 48) {
+                sizes[place]++;
+                due("ALIKE to the HEAD, " + a, x.alike(a, x.ofClass(place, 1)), 1);
+            }
+        }
+        for (int k = 0; k < 48; k++) {
+            due("SIZE of " + k, Check.net(TEN).ofClass(k, 0), sizes[k]);
+        }
+        due("many(0)", Check.net(TEN).many(0), 534);
+        due("many(1)", Check.net(TEN).many(1), 48);
+    }
+
     private static void noClassOfARound() {
         CHECK.says("A CLASS: all FREE ARROWINGS");
         for (int n = 3; n <= 7; n++) {
@@ -368,9 +400,72 @@ public final class FlowTermsTest {
             due("K5, tutte(" + x + ", " + y + ")", Check.net(K5).tutte(x, y), k5[k]);
             due("tails, tutte(" + x + ", " + y + ")", Check.net("7;01;02;12;34;45;35;56").tutte(x, y), tails[k]);
         }
+        // The numbers of EDGES change nothing.
+        String[] orders = {"4;03;13;01;23;02;12", "4;23;03;13;12;02;01", "4;12;03;01;23;13;02", "4;32;31;30;21;20;10"};
+        for (String order : orders) {
+            due("K4, tutte(9, 8) of " + order, Check.net(order).tutte(9, 8), 1998);
+            due("K4, tutte(2, 0) of " + order, Check.net(order).tutte(2, 0), 24);
+        }
+        due("a ring of 7", Check.net("7;06;56;45;34;23;12;01").tutte(2, 5), 5 + 2 + 4 + 8 + 16 + 32 + 64);
+        due("a ring of 7", Check.net("7;06;16;01;36;26;23;56").tutte(2, 5), 2 * 11 * 11);
         // The greatest that comes out of any NET.
         due("tutte(9, 9)", Check.net("7;56;46;24;34;14;26;45;01;12;25").tutte(9, 9), 2706048);
         due("tutte(10, 9)", Check.net(TEN).tutte(10, 9), BAD);
         due("tutte(9, 10)", Check.net(TEN).tutte(9, 10), BAD);
+    }
+
+    /** All that is worked out of THE NET, as it must be of a new object with the same NET. */
+    private static String worked(ArrowTurner x) {
+        int all = (1 << x.count(1)) - 1;
+        StringBuilder text = new StringBuilder().append(x.count(5));
+        for (int e = 0; e < x.count(1); e++) {
+            text.append(' ').append(x.of(e, 2)).append(' ').append(x.flow(all / 3, e));
+        }
+        text.append(" alike ").append(x.alike(0, 1 & all)).append(" many ").append(x.many(0)).append(' ');
+        text.append(x.many(1)).append(" classes ").append(x.ofClass(0, 0)).append(' ').append(x.ofClass(0, 1));
+        text.append(' ').append(x.ofClass(x.many(1) - 1, 1)).append(" place ").append(x.place(0)).append(' ');
+        text.append(x.place(all)).append(" rooted ").append(x.rooted(0)).append(" tutte ").append(x.tutte(2, 3));
+        return text.append(' ').append(x.tutte(1, 0)).toString();
+    }
+
+    private interface Change {
+        void of(ArrowTurner x);
+    }
+
+    private static void behind(String told, Change change) {
+        ArrowTurner x = Check.net(TEN);
+        x.image();
+        worked(x);
+        change.of(x);
+        String got = worked(x);
+        CHECK.same("behind " + told + " what is worked out", got, worked(Check.net(Check.spelled(x))));
+        x.undo();
+        CHECK.same("behind " + told + " and undo()", worked(x), worked(Check.net(TEN)));
+    }
+
+    private static void behindEveryChange() {
+        CHECK.says("EDGES, CHORDS, CLASSES: those of THE NET as it is");
+        behind("cut(2)", x -> x.cut(2));
+        behind("cut(9)", x -> x.cut(9));
+        behind("cut(6), edge(6, 0)", x -> {
+            x.cut(6);
+            x.edge(6, 0);
+        });
+        behind("nodes(5)", x -> x.nodes(5));
+        behind("nodes(7)", x -> x.nodes(7));
+        behind("set(341)", x -> x.set(341));
+        behind("fire(0)", x -> x.fire(0));
+        behind("read() of less", x -> {
+            Check.feed(x, "4;23;03;02;01;13");
+            x.read();
+        });
+        behind("read() of as many", x -> {
+            Check.feed(x, "7;65;06;45;34;32;21;10;13;46;53");
+            x.read();
+        });
+        behind("read() of a FAULT", x -> {
+            Check.feed(x, "7;65;06;45;34;32;21;10;13;46;66");
+            x.read();
+        });
     }
 }

@@ -16,10 +16,13 @@ public final class NetTermsTest {
 
     public static void main(String[] args) {
         oneToSevenNodes();
+        noEdgesBehindNodes();
         fourAtFirst();
         nodesFromZero();
         edgesFromZero();
         tenEdgesAtMost();
+        numbersBehindCut();
+        nothingToCut();
         unlikeNodes();
         noTwoBetweenTheSame();
         lowAndHigh();
@@ -65,6 +68,32 @@ public final class NetTermsTest {
         for (int n = 1; n <= 7; n++) {
             x.nodes(n);
             due("count(0) behind nodes(" + n + ")", x.count(0), n);
+        }
+    }
+
+    private static void noEdgesBehindNodes() {
+        CHECK.says("N becomes n, there are no EDGES: what N was");
+        for (int n = 1; n <= 7; n++) {
+            ArrowTurner x = Check.net(TEN);
+            x.set(1023);
+            x.feed('3', 1);
+            x.hold(0, 0, 1023);
+            x.firer(1, 1);
+            x.image();
+            due("nodes(" + n + ")", x.nodes(n), 7);
+            due("EDGES", x.count(1), 0);
+            due("CHORDS", x.count(5), 0);
+            due("arrows()", x.arrows(), 0);
+            due("set(1)", x.set(1), BAD);
+            due("many(0)", x.many(0), 1);
+            due("edge(0, " + (n - 1) + ")", x.edge(0, n - 1), n == 1 ? BAD : 0);
+            due("arrows() then", x.arrows(), 0);
+            due("THE TAPE stays", x.count(4), 1);
+            due("HOLDERS stay", x.taken(0, 0), 1023);
+            due("FIRERS stay", x.count(3), 1);
+            due("THE IMAGE stays", x.undo(), 10);
+            due("nodes(7), as many", x.nodes(7), 7);
+            due("EDGES", x.count(1), 0);
         }
     }
 
@@ -129,6 +158,41 @@ public final class NetTermsTest {
         due("read() of 10", x.read(), 10);
         Check.feed(x, TEN + ";36");
         due("read() of 11", x.read(), -1031);
+    }
+
+    private static void numbersBehindCut() {
+        CHECK.says("An EDGE is no more; those behind it have numbers 1 less, and lead as they did");
+        for (int edge = 0; edge < 10; edge++) {
+            for (int pattern : new int[] {0, 1023, 0b0101010101, 0b1100110011, 1 << edge, 1023 - (1 << edge)}) {
+                ArrowTurner x = Check.net(TEN);
+                x.set(pattern);
+                String text = Check.spelled(x);
+                String left = text.substring(0, 1 + 3 * edge) + text.substring(4 + 3 * edge);
+                int from = text.charAt(2 + 3 * edge) - '0';
+                int to = text.charAt(3 + 3 * edge) - '0';
+                due("cut(" + edge + ") of " + pattern, x.cut(edge), 9);
+                CHECK.same("what is left", Check.spelled(x), left);
+                due("arrows()", x.arrows(), pattern % (1 << edge) + pattern / (2 << edge) * (1 << edge));
+                due("of(9, 0)", x.of(9, 0), BAD);
+                due("byWord(1234567)", x.byWord(1234567), 0);
+                due("byWord(7654321)", x.byWord(7654321), 511);
+                due("edge again, it is the last", x.edge(from, to), 9);
+                due("its bit", x.of(9, 3), pattern >> edge & 1);
+            }
+        }
+    }
+
+    private static void nothingToCut() {
+        CHECK.says("cut: how many there are. BAD");
+        ArrowTurner x = Check.net(TEN);
+        for (int left = 9; left >= 0; left--) {
+            due("cut(" + (left + 1) + ")", x.cut(left + 1), BAD);
+            due("cut(" + left + ")", x.cut(left), left);
+            due("count(1)", x.count(1), left);
+        }
+        due("cut(0) of none", x.cut(0), BAD);
+        due("set(1)", x.set(1), BAD);
+        due("count(0)", x.count(0), 7);
     }
 
     private static void unlikeNodes() {
@@ -432,6 +496,19 @@ public final class NetTermsTest {
         due("the newest, drowned", x.log(23, 1), 1);
         due("the oldest", x.log(0, 0), 3);
         due("the one ahead of the newest", x.log(22, 1), 0);
+        ArrowTurner turns = Check.net("2;01");
+        for (int k = 0; k < 24; k++) {
+            due("deed " + k, k % 3 == 0 ? turns.drown((k + 1) % 2) : turns.fire(k % 2), (k + 1) % 2);
+        }
+        for (int more = 24; more < 30; more++) {
+            turns.fire(more % 2);
+            for (int k = 0; k < 23; k++) {
+                int deed = k + more - 23;
+                boolean drowned = deed < 24 && deed % 3 == 0;
+                due("the NODE of " + k, turns.log(k, 0), drowned ? (deed + 1) % 2 : deed % 2);
+                due("whether " + k + " was DROWNED", turns.log(k, 1), drowned ? 1 : 0);
+            }
+        }
         ArrowTurner drowned = Check.net("2;01");
         drowned.drown(1);
         for (int k = 0; k < 23; k++) {
@@ -472,6 +549,8 @@ public final class NetTermsTest {
         CHECK.same("both FIRED", thinned(two, "f0 f1"), "0 f0 f1");
         CHECK.same("both DROWNED", thinned(two, "d1 d0"), "0 d1 d0");
         CHECK.same("of two NODES", thinned(two, "f0 d3"), "0 f0 d3");
+        CHECK.same("DROWNED alone", thinned("7;10;32", "d0"), "0 d0");
+        CHECK.same("DROWNED first", thinned("7;10;32", "d0 d2 f2 f3"), "2 d0 f3");
         CHECK.same("of one NODE, not side by side", thinned(two, "f0 f2 d0"), "0 f0 f2 d0");
         CHECK.same("both FIRED, not side by side", thinned(two, "f0 f1 f0"), "0 f0 f1 f0");
         CHECK.same("at the beginning", thinned(two, "f0 d0 f2 f4"), "2 f2 f4");

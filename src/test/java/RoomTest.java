@@ -8,7 +8,7 @@ import java.util.IdentityHashMap;
 /** All calls of a run live in one room: 600,000 objects, 7.3 million fields and elements in all. */
 public final class RoomTest {
     private static final Check CHECK = new Check("RoomTest");
-    private static final int CALLS = 512, MOST_OBJECTS = 600_000;
+    private static final int CALLS = 512, READ_CALLS = 32, MOST_OBJECTS = 600_000;
     private static final long MOST_ELEMENTS = 7_300_000, ELEMENT_BYTES = 8;
     private static final String[] NETS = {"7;65;06;45;34;32;21;10;13;46;53", "7;01;23;45;60",
         "5;01;02;03;04;12;13;14;23;24;34", "7;01;02;03;04;05;06"};
@@ -56,11 +56,11 @@ public final class RoomTest {
         long thread = Thread.currentThread().getId();
         long before = threads.getThreadAllocatedBytes(thread);
         long sum = 0;
-        for (int k = 0; k < CALLS / calls.split(", ").length; k++) {
+        for (int k = 0; k < (CALLS - READ_CALLS) / calls.split(", ").length; k++) {
             sum += call.on(x, k);
         }
         long made = threads.getThreadAllocatedBytes(thread) - before;
-        CHECK.that(CALLS + " of " + calls + " make " + made + " bytes (" + sum + ")",
+        CHECK.that("a run of " + calls + " makes " + made + " bytes (" + sum + ")",
                 made < MOST_ELEMENTS * ELEMENT_BYTES);
     }
 

@@ -36,6 +36,7 @@ public final class TapeTermsTest {
         imageKeeps();
         imageDoesNotKeep();
         imageStays();
+        imageTellsEdges();
         CHECK.end();
     }
 
@@ -471,6 +472,14 @@ public final class TapeTermsTest {
                 due("judge(3, " + a + ") of " + text, x.judge(3, a), NOT);
             }
         }
+        // Of CHORDS that were there no number is left over.
+        ArrowTurner fewer = Check.net(K5);
+        while (fewer.count(1) > 0) {
+            tell(fewer, 2, 0, 0);
+            due("judge(2, 0), " + fewer.count(1) + " EDGES left", fewer.judge(2, 0), NOT);
+            fewer.cut(fewer.count(1) - 1);
+        }
+        due("judge of an empty ROW", fewer.judge(2, 0), NOT);
         ArrowTurner round = Check.net("3;01;12;20");
         tell(round, 0, 4, 0);
         due("of a ROUND", round.judge(0, 4), NOT);
@@ -511,7 +520,15 @@ public final class TapeTermsTest {
                     x.read();
             }
             CHECK.that("change " + change + " changes", change == 8 || !States.kept(x).equals(want));
+            if (change < 3) {
+                x.many(1);
+                x.tutte(2, 0);
+            }
             due("undo() of change " + change, x.undo(), 4);
+            due("CHORDS behind it", x.count(5), 1);
+            due("FLOW behind it", x.flow(4, 2), -3);
+            due("many(1) behind it", x.many(1), 2);
+            due("tutte(2, 0) behind it", x.tutte(2, 0), 12);
             CHECK.same("behind undo()", States.kept(x), want);
             due("count(3)", x.count(3), 2);
             due("a third FIRER", x.firer(0, 0), 2);
@@ -565,5 +582,18 @@ public final class TapeTermsTest {
         due("N", x.count(0), 6);
         due("THE LOG", x.count(2), 0);
         due("FIRERS", x.count(3), 2);
+    }
+
+    private static void imageTellsEdges() {
+        CHECK.says("THE IMAGE is kept: how many EDGES there are");
+        for (int edges = 0; edges <= 10; edges++) {
+            ArrowTurner x = Check.net(TEN.substring(0, 1 + 3 * edges));
+            due("image()", x.image(), edges);
+            due("image() again", x.image(), edges);
+            due("undo()", x.undo(), edges);
+            x.nodes(2);
+            due("undo() behind nodes()", x.undo(), edges);
+            CHECK.same("THE NET", Check.spelled(x), TEN.substring(0, 1 + 3 * edges));
+        }
     }
 }
