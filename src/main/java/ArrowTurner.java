@@ -886,13 +886,13 @@ public final class ArrowTurner {
         }
 
         int rootedAt(Net net, int node) {
-            int found = 0;
+            int ones = 0;
             for (int a = 0; a < 1 << net.edges; a++) {
                 if (at(home, a) >= 0 && net.sources(a) == 1 << node) {
-                    found++;
+                    ones++;
                 }
             }
-            return found;
+            return ones;
         }
     }
 
